@@ -1,21 +1,16 @@
 /** Promises 1 to 6: a new object, interval, exchange, drop, sources, covers. */
 public final class IntervalsTest {
-    private static final long FAR = 1L << 58;
-    private static final long LATEST = 1L << 57;
-    private static final long NO = ClockDesk.NO_OFFSET;
+    private static final long FAR = Desks.FAR;
+    private static final long NO = Desks.NO;
     private static final Check CHECK = new Check();
 
     public static void main(String[] args) {
         aNewObject();
         objectsStandAlone();
         intervalsAreTaken();
-        wrongIntervalsChangeNothing();
         exchanges();
-        exchangesAtTheEdges();
-        wrongExchangesChangeNothing();
         drops();
         coversBothEnds();
-        coversAnyPoint();
         CHECK.end();
     }
 
@@ -69,26 +64,6 @@ public final class IntervalsTest {
         CHECK.due("covers(2^58)", desk.covers(FAR), 2);
     }
 
-    private static void wrongIntervalsChangeNothing() {
-        ClockDesk desk = new ClockDesk();
-        desk.interval(4, -5, 5);
-        int[] noSources = {-1, 24, 25, 28, 32, 36, -28, Integer.MIN_VALUE, Integer.MAX_VALUE};
-        for (int source : noSources) {
-            CHECK.due("interval of " + source, desk.interval(source, 0, 1), false);
-        }
-        CHECK.due("low above high", desk.interval(4, 1, 0), false);
-        CHECK.due("low too low", desk.interval(4, -FAR - 1, 0), false);
-        CHECK.due("high too high", desk.interval(4, 0, FAR + 1), false);
-        CHECK.due("both too high", desk.interval(4, FAR + 1, FAR + 1), false);
-        CHECK.due("both too low", desk.interval(4, -FAR - 1, -FAR - 1), false);
-        CHECK.due("all there is", desk.interval(4, Long.MIN_VALUE, Long.MAX_VALUE), false);
-        CHECK.due("turned round", desk.interval(4, Long.MAX_VALUE, Long.MIN_VALUE), false);
-        CHECK.due("wrong for a new source", desk.interval(6, 1, 0), false);
-        CHECK.due("sources", desk.sources(), 1);
-        CHECK.due("low stays", desk.region(0), -5);
-        CHECK.due("high stays", desk.region(1), 5);
-    }
-
     private static void exchanges() {
         ClockDesk desk = new ClockDesk();
         CHECK.due("even half", desk.exchange(2, 100, 500, 140), 380);
@@ -107,51 +82,10 @@ public final class IntervalsTest {
         CHECK.due("the own clock is not touched", desk.read(), 0);
     }
 
-    private static void exchangesAtTheEdges() {
-        ClockDesk desk = new ClockDesk();
-        CHECK.due("all 0", desk.exchange(0, 0, 0, 0), 0);
-        CHECK.due("the longest way", desk.exchange(23, 0, 0, LATEST), -LATEST / 2);
-        CHECK.due("its low", desk.covers(-LATEST), 1);
-        CHECK.due("below its low", desk.covers(-LATEST - 1), 0);
-        CHECK.due("the most ahead", desk.exchange(23, 0, LATEST, 0), LATEST);
-        CHECK.due("its point", desk.covers(LATEST), 1);
-        CHECK.due("the most behind", desk.exchange(23, LATEST, 0, LATEST), -LATEST);
-        CHECK.due("all last", desk.exchange(23, LATEST, LATEST, LATEST), 0);
-        CHECK.due("long way to the last", desk.exchange(23, 0, LATEST, LATEST), LATEST / 2);
-        CHECK.due("its high", desk.covers(LATEST), 1);
-        CHECK.due("above its high", desk.covers(LATEST + 1), 0);
-    }
-
-    private static void wrongExchangesChangeNothing() {
-        ClockDesk desk = new ClockDesk();
-        desk.interval(0, 3, 4);
-        int[] noSources = {-1, 24, 32, Integer.MIN_VALUE, Integer.MAX_VALUE};
-        for (int source : noSources) {
-            CHECK.due("exchange of " + source, desk.exchange(source, 1, 1, 1), NO);
-        }
-        CHECK.due("sent below 0", desk.exchange(0, -1, 5, 5), NO);
-        CHECK.due("sent behind came", desk.exchange(0, 6, 5, 5), NO);
-        CHECK.due("came too late", desk.exchange(0, 0, 5, LATEST + 1), NO);
-        CHECK.due("both too late", desk.exchange(0, LATEST + 1, 5, LATEST + 1), NO);
-        CHECK.due("both below 0", desk.exchange(0, -2, 5, -1), NO);
-        CHECK.due("told below 0", desk.exchange(0, 0, -1, 5), NO);
-        CHECK.due("told too late", desk.exchange(0, 0, LATEST + 1, 5), NO);
-        CHECK.due("extremes", desk.exchange(0, Long.MIN_VALUE, Long.MAX_VALUE, Long.MAX_VALUE), NO);
-        CHECK.due("told extreme", desk.exchange(0, 0, Long.MIN_VALUE, 5), NO);
-        CHECK.due("wrong for a new source", desk.exchange(1, 0, -1, 5), NO);
-        CHECK.due("sources", desk.sources(), 1);
-        CHECK.due("low stays", desk.region(0), 3);
-        CHECK.due("high stays", desk.region(1), 4);
-    }
-
     private static void drops() {
         ClockDesk desk = new ClockDesk();
         desk.interval(0, 0, 10);
         desk.interval(23, 5, 15);
-        int[] noSources = {-1, 24, 32, 55, -9, Integer.MIN_VALUE, Integer.MAX_VALUE};
-        for (int source : noSources) {
-            CHECK.due("drop of " + source, desk.drop(source), false);
-        }
         CHECK.due("drop of one without", desk.drop(1), false);
         CHECK.due("sources", desk.sources(), 2);
         CHECK.due("drop 0", desk.drop(0), true);
@@ -177,15 +111,5 @@ public final class IntervalsTest {
         for (int i = 0; i < points.length; i++) {
             CHECK.due("covers " + points[i], desk.covers(points[i]), want[i]);
         }
-    }
-
-    private static void coversAnyPoint() {
-        ClockDesk desk = new ClockDesk();
-        desk.interval(1, -FAR, FAR);
-        CHECK.due("covers the least long", desk.covers(Long.MIN_VALUE), 0);
-        CHECK.due("covers the greatest long", desk.covers(Long.MAX_VALUE), 0);
-        CHECK.due("covers below", desk.covers(-FAR - 1), 0);
-        CHECK.due("covers above", desk.covers(FAR + 1), 0);
-        CHECK.due("covers NO_OFFSET", desk.covers(NO), 0);
     }
 }

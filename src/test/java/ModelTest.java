@@ -6,14 +6,14 @@ import java.util.TreeMap;
 
 /** Long runs of mixed calls against a model that is written another way: a sweep over changes of cover, and BigInteger. */
 public final class ModelTest {
-    private static final long NO = ClockDesk.NO_OFFSET;
-    private static final long FAR = 1L << 58;
-    private static final long LATEST = 1L << 57;
+    private static final long NO = Desks.NO;
+    private static final long FAR = Desks.FAR;
+    private static final long LATEST = Desks.LATEST;
     private static final Check CHECK = new Check();
 
     public static void main(String[] args) {
         long[] spans = {3, 12, 60, 5000, 1L << 42, FAR};
-        for (int run = 0; run < 600; run++) {
+        for (int run = 0; run < 1200; run++) {
             new Run(run, spans[run % spans.length]).play();
         }
         CHECK.end();
@@ -44,6 +44,7 @@ public final class ModelTest {
         private final Numbers numbers;
         private final ClockDesk desk = new ClockDesk();
         private final TreeMap<Integer, long[]> intervals = new TreeMap<>();
+        private int calls = 0;
         private long now = 0;
         private long offset = 0;
         private long goal = 0;
@@ -55,13 +56,16 @@ public final class ModelTest {
             this.numbers = new Numbers(number);
         }
 
+        /** No step makes more than five calls, so a desk is not asked beyond its 512th. */
         void play() {
-            for (int calls = 0; calls < 500; calls++) {
+            while (calls <= 507) {
                 step((int) numbers.between(0, 21));
             }
         }
 
+        /** Each call of the desk comes through here. */
         private void due(String call, long got, long want) {
+            calls++;
             CHECK.due("run " + number + ": " + call, got, want);
         }
 

@@ -1,11 +1,10 @@
 /** Promises 7 to 10: greatest, region, hull, chosen. */
 public final class RegionTest {
-    private static final long FAR = 1L << 58;
-    private static final long NO = ClockDesk.NO_OFFSET;
+    private static final long FAR = Desks.FAR;
+    private static final long NO = Desks.NO;
     private static final Check CHECK = new Check();
 
     public static void main(String[] args) {
-        withoutIntervals();
         oneInCommon();
         touchingAtAPoint();
         rowsThatGoOnBesideEachOther();
@@ -14,28 +13,14 @@ public final class RegionTest {
         aRowOfManyPieces();
         theWidest();
         hullsOfAllKinds();
-        wrongHulls();
         choosing();
-        wrongChoices();
         CHECK.end();
-    }
-
-    private static ClockDesk desk(long... ends) {
-        ClockDesk desk = new ClockDesk();
-        for (int i = 0; i + 1 < ends.length; i += 2) {
-            CHECK.due("interval " + i / 2, desk.interval(i / 2, ends[i], ends[i + 1]), true);
-        }
-        return desk;
     }
 
     private static void dueRegion(String what, ClockDesk desk, int greatest, long low, long high) {
         CHECK.due(what + ": greatest", desk.greatest(), greatest);
         CHECK.due(what + ": region(0)", desk.region(0), low);
         CHECK.due(what + ": region(1)", desk.region(1), high);
-        int[] others = {-1, 2, Integer.MIN_VALUE, Integer.MAX_VALUE};
-        for (int end : others) {
-            CHECK.due(what + ": region " + end, desk.region(end), NO);
-        }
     }
 
     private static void dueHull(ClockDesk desk, int f, long low, long high) {
@@ -43,39 +28,32 @@ public final class RegionTest {
         CHECK.due("hull(" + f + ", 1)", desk.hull(f, 1), high);
     }
 
-    private static void withoutIntervals() {
-        dueRegion("none", desk(), 0, NO, NO);
-        ClockDesk desk = desk(0, 1);
-        desk.drop(0);
-        dueRegion("dropped", desk, 0, NO, NO);
-    }
-
     private static void oneInCommon() {
-        dueRegion("alone", desk(-7, 9), 1, -7, 9);
-        dueRegion("within", desk(0, 10, 3, 5), 2, 3, 5);
-        dueRegion("across", desk(0, 10, 5, 15, 7, 30), 3, 7, 10);
-        dueRegion("the same", desk(2, 4, 2, 4, 2, 4), 3, 2, 4);
+        dueRegion("alone", Desks.of(-7, 9), 1, -7, 9);
+        dueRegion("within", Desks.of(0, 10, 3, 5), 2, 3, 5);
+        dueRegion("across", Desks.of(0, 10, 5, 15, 7, 30), 3, 7, 10);
+        dueRegion("the same", Desks.of(2, 4, 2, 4, 2, 4), 3, 2, 4);
     }
 
     private static void touchingAtAPoint() {
-        dueRegion("touching", desk(0, 5, 5, 9), 2, 5, 5);
-        dueRegion("turned round", desk(5, 9, 0, 5), 2, 5, 5);
+        dueRegion("touching", Desks.of(0, 5, 5, 9), 2, 5, 5);
+        dueRegion("turned round", Desks.of(5, 9, 0, 5), 2, 5, 5);
     }
 
     private static void rowsThatGoOnBesideEachOther() {
-        dueRegion("beside", desk(0, 5, 6, 9), 1, 0, 9);
-        dueRegion("beside, below another", desk(-100, 100, 6, 9, 0, 5), 2, 0, 9);
-        dueRegion("one goes, one comes", desk(0, 10, 5, 15, 11, 20), 2, 5, 15);
+        dueRegion("beside", Desks.of(0, 5, 6, 9), 1, 0, 9);
+        dueRegion("beside, below another", Desks.of(-100, 100, 6, 9, 0, 5), 2, 0, 9);
+        dueRegion("one goes, one comes", Desks.of(0, 10, 5, 15, 11, 20), 2, 5, 15);
     }
 
     private static void rowsWithAPointBetween() {
-        dueRegion("a point between", desk(0, 5, 7, 9), 1, 0, 5);
-        dueRegion("a lesser point between", desk(-9, 9, 0, 2, 4, 6), 2, 0, 2);
+        dueRegion("a point between", Desks.of(0, 5, 7, 9), 1, 0, 5);
+        dueRegion("a lesser point between", Desks.of(-9, 9, 0, 2, 4, 6), 2, 0, 2);
     }
 
     private static void theRowThatLiesFirst() {
-        dueRegion("first by place, not by number", desk(50, 60, 50, 60, -8, -4, -6, -2), 2, -6, -4);
-        dueRegion("most, not first", desk(-8, -4, -6, -2, 50, 60, 50, 60, 55, 70), 3, 55, 60);
+        dueRegion("first by place, not by number", Desks.of(50, 60, 50, 60, -8, -4, -6, -2), 2, -6, -4);
+        dueRegion("most, not first", Desks.of(-8, -4, -6, -2, 50, 60, 50, 60, 55, 70), 3, 55, 60);
     }
 
     private static void aRowOfManyPieces() {
@@ -89,68 +67,45 @@ public final class RegionTest {
     }
 
     private static void theWidest() {
-        dueRegion("the widest", desk(-FAR, FAR), 1, -FAR, FAR);
-        dueRegion("the last point", desk(-FAR, FAR, FAR, FAR), 2, FAR, FAR);
-        dueRegion("the first point", desk(-FAR, FAR, -FAR, -FAR), 2, -FAR, -FAR);
-        dueRegion("both ends", desk(FAR, FAR, -FAR, -FAR), 1, -FAR, -FAR);
+        dueRegion("the widest", Desks.of(-FAR, FAR), 1, -FAR, FAR);
+        dueRegion("the last point", Desks.of(-FAR, FAR, FAR, FAR), 2, FAR, FAR);
+        dueRegion("the first point", Desks.of(-FAR, FAR, -FAR, -FAR), 2, -FAR, -FAR);
+        dueRegion("both ends", Desks.of(FAR, FAR, -FAR, -FAR), 1, -FAR, -FAR);
     }
 
     private static void hullsOfAllKinds() {
-        ClockDesk desk = desk(0, 10, 5, 15, 11, 20, 100, 200);
+        ClockDesk desk = Desks.of(0, 10, 5, 15, 11, 20, 100, 200);
         dueHull(desk, 0, NO, NO);
         dueHull(desk, 1, NO, NO);
         dueHull(desk, 2, 5, 15);
         dueHull(desk, 3, 0, 200);
-        ClockDesk apart = desk(0, 4, 2, 6, 90, 94, 92, 96);
+        ClockDesk apart = Desks.of(0, 4, 2, 6, 90, 94, 92, 96);
         dueHull(apart, 2, 2, 94);
         dueHull(apart, 3, 0, 96);
-        ClockDesk common = desk(-20, 20, -10, 30, -15, 5);
+        ClockDesk common = Desks.of(-20, 20, -10, 30, -15, 5);
         dueHull(common, 0, -10, 5);
         dueHull(common, 1, -15, 20);
         dueHull(common, 2, -20, 30);
-        dueHull(desk(-FAR, FAR), 0, -FAR, FAR);
-        dueHull(desk(FAR, FAR, -FAR, -FAR), 1, -FAR, FAR);
-    }
-
-    private static void wrongHulls() {
-        ClockDesk desk = desk(0, 10, 5, 15);
-        int[] wrong = {-1, 2, 3, 24, Integer.MIN_VALUE, Integer.MAX_VALUE};
-        for (int f : wrong) {
-            dueHull(desk, f, NO, NO);
-        }
-        int[] others = {-1, 2, Integer.MIN_VALUE, Integer.MAX_VALUE};
-        for (int end : others) {
-            CHECK.due("hull(0, " + end + ")", desk.hull(0, end), NO);
-        }
-        dueHull(desk(), 0, NO, NO);
-        dueHull(desk(), -1, NO, NO);
+        dueHull(Desks.of(-FAR, FAR), 0, -FAR, FAR);
+        dueHull(Desks.of(FAR, FAR, -FAR, -FAR), 1, -FAR, FAR);
     }
 
     private static void choosing() {
-        ClockDesk desk = desk(0, 10, 5, 15, 11, 20);
+        ClockDesk desk = Desks.of(0, 10, 5, 15, 11, 20);
         boolean[] first = {false, true, false, false};
         for (int source = 0; source < first.length; source++) {
             CHECK.due("chosen " + source, desk.chosen(source), first[source]);
         }
-        ClockDesk exact = desk(0, 10, 5, 15, 5, 10, 6, 7, 30, 40);
+        ClockDesk exact = Desks.of(0, 10, 5, 15, 5, 10, 6, 7, 30, 40);
         boolean[] second = {true, true, true, true, false};
         for (int source = 0; source < second.length; source++) {
             CHECK.due("chosen of four in common " + source, exact.chosen(source), second[source]);
         }
         exact.drop(0);
         CHECK.due("chosen after drop", exact.chosen(0), false);
-        ClockDesk joined = desk(0, 4, 0, 2, 3, 4);
+        ClockDesk joined = Desks.of(0, 4, 0, 2, 3, 4);
         CHECK.due("all of a joined region", joined.chosen(0), true);
         CHECK.due("its low part", joined.chosen(1), false);
         CHECK.due("its high part", joined.chosen(2), false);
-    }
-
-    private static void wrongChoices() {
-        ClockDesk desk = desk(0, 10);
-        int[] noSources = {-1, 1, 23, 24, 32, -32, Integer.MIN_VALUE, Integer.MAX_VALUE};
-        for (int source : noSources) {
-            CHECK.due("chosen " + source, desk.chosen(source), false);
-        }
-        CHECK.due("chosen without intervals", desk().chosen(0), false);
     }
 }
