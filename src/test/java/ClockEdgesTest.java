@@ -32,18 +32,12 @@ public final class ClockEdgesTest {
         CHECK.end();
     }
 
-    private static void dueTick(ClockDesk desk, long now, long offset) {
-        CHECK.due("tick(" + now + ")", desk.tick(now), true);
-        CHECK.due("offset(0) at " + now, desk.offset(0), offset);
-        CHECK.due("read() at " + now, desk.read(), now + offset);
-    }
-
     private static void tickFrom0() {
         CHECK.sentence("Promise 14, the own clock is at now (0 at first)");
         CHECK.due("tick(-1)", new ClockDesk().tick(-1), false);
         CHECK.due("tick(0)", new ClockDesk().tick(0), true);
-        dueTick(Desks.steeredTo(10), 1999, 0);
-        dueTick(Desks.steeredTo(10), 2000, 1);
+        CHECK.tick(Desks.steeredTo(10), 1999, 0);
+        CHECK.tick(Desks.steeredTo(10), 2000, 1);
     }
 
     private static void tickRoundedDown() {
@@ -51,13 +45,13 @@ public final class ClockEdgesTest {
         long[] signs = {1, -1};
         for (long sign : signs) {
             ClockDesk desk = Desks.steeredTo(sign * 1000);
-            dueTick(desk, 0, 0);
-            dueTick(desk, 1999, 0);
-            dueTick(desk, 3999, sign);
-            dueTick(desk, 6000, 2 * sign);
-            dueTick(desk, 9999, 3 * sign);
-            dueTick(desk, 13999, 5 * sign);
-            dueTick(desk, 13999, 5 * sign);
+            CHECK.tick(desk, 0, 0);
+            CHECK.tick(desk, 1999, 0);
+            CHECK.tick(desk, 3999, sign);
+            CHECK.tick(desk, 6000, 2 * sign);
+            CHECK.tick(desk, 9999, 3 * sign);
+            CHECK.tick(desk, 13999, 5 * sign);
+            CHECK.tick(desk, 13999, 5 * sign);
         }
     }
 
@@ -65,41 +59,41 @@ public final class ClockEdgesTest {
         CHECK.sentence("Promise 14, towards its goal, at most");
         long[] signs = {1, -1};
         for (long sign : signs) {
-            dueTick(Desks.steeredTo(5 * sign), 9999, 4 * sign);
-            dueTick(Desks.steeredTo(5 * sign), 10000, 5 * sign);
-            dueTick(Desks.steeredTo(5 * sign), 12000, 5 * sign);
+            CHECK.tick(Desks.steeredTo(5 * sign), 9999, 4 * sign);
+            CHECK.tick(Desks.steeredTo(5 * sign), 10000, 5 * sign);
+            CHECK.tick(Desks.steeredTo(5 * sign), 12000, 5 * sign);
             ClockDesk desk = Desks.steeredTo(5 * sign);
-            dueTick(desk, LATEST - 2000, 5 * sign);
-            dueTick(desk, LATEST, 5 * sign);
+            CHECK.tick(desk, LATEST - 2000, 5 * sign);
+            CHECK.tick(desk, LATEST, 5 * sign);
         }
     }
 
     private static void tickLosesWhatIsLeftOver() {
         CHECK.sentence("Promise 14, what is left over of 2000");
         ClockDesk desk = Desks.steeredTo(100);
-        dueTick(desk, 1999, 0);
-        dueTick(desk, 3998, 0);
-        dueTick(desk, 5998, 1);
-        dueTick(desk, 7997, 1);
+        CHECK.tick(desk, 1999, 0);
+        CHECK.tick(desk, 3998, 0);
+        CHECK.tick(desk, 5998, 1);
+        CHECK.tick(desk, 7997, 1);
     }
 
     private static void tickAsFarAsItGoes() {
         CHECK.sentence("Promise 14, from 0 to 2^57 towards a goal at - 2^58 or 2^58");
-        dueTick(Desks.steeredTo(FAR), LATEST, LATEST / 2000);
-        dueTick(Desks.steeredTo(-FAR), LATEST, -(LATEST / 2000));
+        CHECK.tick(Desks.steeredTo(FAR), LATEST, LATEST / 2000);
+        CHECK.tick(Desks.steeredTo(-FAR), LATEST, -(LATEST / 2000));
     }
 
     private static void tickBelowThatBefore() {
         CHECK.sentence("Promise 14, False when now is below that before");
         ClockDesk desk = new ClockDesk();
-        dueTick(desk, 6000, 0);
+        CHECK.tick(desk, 6000, 0);
         CHECK.due("tick one back", desk.tick(5999), false);
         CHECK.due("tick(0)", desk.tick(0), false);
         CHECK.due("tick(-1)", desk.tick(-1), false);
         CHECK.due("the least tick", desk.tick(Long.MIN_VALUE), false);
         CHECK.due("read()", desk.read(), 6000);
-        dueTick(desk, 6000, 0);
-        dueTick(desk, 6001, 0);
+        CHECK.tick(desk, 6000, 0);
+        CHECK.tick(desk, 6001, 0);
     }
 
     private static void tickAbove() {
@@ -109,22 +103,22 @@ public final class ClockEdgesTest {
         CHECK.due("tick(2^58)", desk.tick(FAR), false);
         CHECK.due("the greatest tick", desk.tick(Long.MAX_VALUE), false);
         CHECK.due("read()", desk.read(), 0);
-        dueTick(desk, LATEST, 0);
+        CHECK.tick(desk, LATEST, 0);
         CHECK.due("tick(2^57 + 1) at 2^57", desk.tick(LATEST + 1), false);
-        dueTick(desk, LATEST, 0);
+        CHECK.tick(desk, LATEST, 0);
         CHECK.due("tick(2^57 - 1) at 2^57", desk.tick(LATEST - 1), false);
     }
 
     private static void tickRefusedChangesNothing() {
         CHECK.sentence("Promise 14, a refused tick");
         ClockDesk desk = Desks.steeredTo(10);
-        dueTick(desk, 6000, 3);
+        CHECK.tick(desk, 6000, 3);
         String before = Desks.state(desk);
         CHECK.due("tick back", desk.tick(5999), false);
         CHECK.due("tick too far", desk.tick(LATEST + 1), false);
         CHECK.same("the state", Desks.state(desk), before);
-        dueTick(desk, 7999, 3);
-        dueTick(desk, 9999, 4);
+        CHECK.tick(desk, 7999, 3);
+        CHECK.tick(desk, 9999, 4);
     }
 
     private static void dueGoal(ClockDesk desk, long goal) {
@@ -197,7 +191,7 @@ public final class ClockEdgesTest {
     private static void steerRefusedLeavesTheGoal() {
         CHECK.sentence("Promise 15, false when not, the goal staying");
         ClockDesk desk = Desks.steeredTo(7);
-        dueTick(desk, 4000, 2);
+        CHECK.tick(desk, 4000, 2);
         desk.interval(1, 20, 30);
         dueNoSteering(desk, 7);
         CHECK.due("offset(0)", desk.offset(0), 2);
@@ -295,9 +289,9 @@ public final class ClockEdgesTest {
     private static void settlesApartFromAnOffset() {
         CHECK.sentence("Promise 18, apart by more than 2^40, the offset not being 0");
         ClockDesk desk = Desks.steeredTo(REACH + 2);
-        dueTick(desk, 2000, 1);
+        CHECK.tick(desk, 2000, 1);
         CHECK.due("by 2^40 + 1", desk.settles(), NO);
-        dueTick(desk, 4000, 2);
+        CHECK.tick(desk, 4000, 2);
         CHECK.due("by 2^40", desk.settles(), 2000 * REACH);
         Desks.steer(desk, 2 - REACH);
         CHECK.due("by - 2^40", desk.settles(), 2000 * REACH);

@@ -20,48 +20,42 @@ public final class ClockTest {
         CHECK.end();
     }
 
-    private static void dueTick(ClockDesk desk, long now, long offset) {
-        CHECK.due("tick " + now, desk.tick(now), true);
-        CHECK.due("offset at " + now, desk.offset(0), offset);
-        CHECK.due("read at " + now, desk.read(), now + offset);
-    }
-
     private static void ticksWithoutAGoal() {
         ClockDesk desk = new ClockDesk();
-        dueTick(desk, 0, 0);
-        dueTick(desk, 5000, 0);
-        dueTick(desk, 5000, 0);
-        dueTick(desk, LATEST, 0);
-        dueTick(desk, LATEST, 0);
+        CHECK.tick(desk, 0, 0);
+        CHECK.tick(desk, 5000, 0);
+        CHECK.tick(desk, 5000, 0);
+        CHECK.tick(desk, LATEST, 0);
+        CHECK.tick(desk, LATEST, 0);
     }
 
     private static void ticksTowardsAGoalAhead() {
         ClockDesk desk = Desks.steeredTo(10);
-        dueTick(desk, 1999, 0);
-        dueTick(desk, 3999, 1);
-        dueTick(desk, 7998, 2);
-        dueTick(desk, 13998, 5);
-        dueTick(desk, 23998, 10);
-        dueTick(desk, 99999, 10);
+        CHECK.tick(desk, 1999, 0);
+        CHECK.tick(desk, 3999, 1);
+        CHECK.tick(desk, 7998, 2);
+        CHECK.tick(desk, 13998, 5);
+        CHECK.tick(desk, 23998, 10);
+        CHECK.tick(desk, 99999, 10);
     }
 
     private static void ticksTowardsAGoalBehind() {
         ClockDesk desk = Desks.steeredTo(-10);
-        dueTick(desk, 1999, 0);
-        dueTick(desk, 3999, -1);
-        dueTick(desk, 7998, -2);
-        dueTick(desk, 99999, -10);
-        dueTick(desk, LATEST, -10);
+        CHECK.tick(desk, 1999, 0);
+        CHECK.tick(desk, 3999, -1);
+        CHECK.tick(desk, 7998, -2);
+        CHECK.tick(desk, 99999, -10);
+        CHECK.tick(desk, LATEST, -10);
         ClockDesk far = Desks.steeredTo(-FAR);
-        dueTick(far, LATEST, -(LATEST / 2000));
+        CHECK.tick(far, LATEST, -(LATEST / 2000));
         ClockDesk ahead = Desks.steeredTo(FAR);
-        dueTick(ahead, LATEST, LATEST / 2000);
+        CHECK.tick(ahead, LATEST, LATEST / 2000);
     }
 
     private static void partsOfAStepAreLost() {
         ClockDesk desk = Desks.steeredTo(100);
         for (long now = 1999; now < 100_000; now += 1999) {
-            dueTick(desk, now, 0);
+            CHECK.tick(desk, now, 0);
         }
     }
 
@@ -153,25 +147,25 @@ public final class ClockTest {
         ClockDesk desk = Desks.steeredTo(50);
         CHECK.due("offset", desk.offset(0), 0);
         CHECK.due("read", desk.read(), 0);
-        dueTick(desk, 20000, 10);
+        CHECK.tick(desk, 20000, 10);
         Desks.steer(desk, -50);
         CHECK.due("offset stays", desk.offset(0), 10);
         CHECK.due("read stays", desk.read(), 20010);
         desk.interval(0, 900, 900);
         CHECK.due("goal stays without steer", desk.offset(1), -50);
-        dueTick(desk, 24000, 8);
+        CHECK.tick(desk, 24000, 8);
     }
 
     private static void offsets() {
         ClockDesk desk = Desks.steeredTo(50);
-        dueTick(desk, 4000, 2);
+        CHECK.tick(desk, 4000, 2);
         CHECK.due("offset(1)", desk.offset(1), 50);
     }
 
     private static void settling() {
         ClockDesk desk = Desks.steeredTo(50);
         CHECK.due("settles ahead", desk.settles(), 100000);
-        dueTick(desk, 4000, 2);
+        CHECK.tick(desk, 4000, 2);
         CHECK.due("settles after a tick", desk.settles(), 96000);
         Desks.steer(desk, -1);
         CHECK.due("settles behind", desk.settles(), 6000);

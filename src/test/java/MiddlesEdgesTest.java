@@ -32,92 +32,87 @@ public final class MiddlesEdgesTest {
         CHECK.end();
     }
 
-    private static void dueMean(ClockDesk desk, long limit, long mean, long count) {
-        CHECK.due("mean(" + limit + ", 0)", desk.mean(limit, 0), mean);
-        CHECK.due("mean(" + limit + ", 1)", desk.mean(limit, 1), count);
-    }
-
     private static void meanRoundedDown() {
         CHECK.sentence("Promise 11, the mean, rounded down");
-        dueMean(Desks.points(0, 2), 2, 1, 2);
-        dueMean(Desks.points(0, 1), 1, 0, 2);
-        dueMean(Desks.points(0, -1), 1, -1, 2);
-        dueMean(Desks.points(0, -2), 2, -1, 2);
-        dueMean(Desks.points(0, 0, 1), 1, 0, 3);
-        dueMean(Desks.points(0, 1, 1), 1, 0, 3);
-        dueMean(Desks.points(0, 0, -1), 1, -1, 3);
-        dueMean(Desks.points(0, -1, -1), 1, -1, 3);
-        dueMean(Desks.points(-1, -1, -1), 1, -1, 3);
+        CHECK.mean(Desks.points(0, 2), 2, 1, 2);
+        CHECK.mean(Desks.points(0, 1), 1, 0, 2);
+        CHECK.mean(Desks.points(0, -1), 1, -1, 2);
+        CHECK.mean(Desks.points(0, -2), 2, -1, 2);
+        CHECK.mean(Desks.points(0, 0, 1), 1, 0, 3);
+        CHECK.mean(Desks.points(0, 1, 1), 1, 0, 3);
+        CHECK.mean(Desks.points(0, 0, -1), 1, -1, 3);
+        CHECK.mean(Desks.points(0, -1, -1), 1, -1, 3);
+        CHECK.mean(Desks.points(-1, -1, -1), 1, -1, 3);
     }
 
     private static void meanNotFartherThanLimit() {
         CHECK.sentence("Promise 11, not farther than limit from the median");
         ClockDesk desk = Desks.points(10, 0, -30);
-        dueMean(desk, 0, 0, 1);
-        dueMean(desk, 9, 0, 1);
-        dueMean(desk, 10, 5, 2);
-        dueMean(desk, 11, 5, 2);
-        dueMean(desk, 29, 5, 2);
-        dueMean(desk, 30, -7, 3);
-        dueMean(desk, Long.MAX_VALUE, -7, 3);
+        CHECK.mean(desk, 0, 0, 1);
+        CHECK.mean(desk, 9, 0, 1);
+        CHECK.mean(desk, 10, 5, 2);
+        CHECK.mean(desk, 11, 5, 2);
+        CHECK.mean(desk, 29, 5, 2);
+        CHECK.mean(desk, 30, -7, 3);
+        CHECK.mean(desk, Long.MAX_VALUE, -7, 3);
     }
 
     private static void meanWithAMedianOfAnOddNumber() {
         CHECK.sentence("Promise 11, the median of all middles, of an odd number");
-        dueMean(Desks.points(-7), 0, -7, 1);
-        dueMean(Desks.points(30, 10, 20), 0, 20, 1);
-        dueMean(Desks.points(10, 10, 20), 0, 10, 2);
-        dueMean(Desks.points(50, 40, 30, 20, 10), 0, 30, 1);
+        CHECK.mean(Desks.points(-7), 0, -7, 1);
+        CHECK.mean(Desks.points(30, 10, 20), 0, 20, 1);
+        CHECK.mean(Desks.points(10, 10, 20), 0, 10, 2);
+        CHECK.mean(Desks.points(50, 40, 30, 20, 10), 0, 30, 1);
         ClockDesk desk = new ClockDesk();
         for (int source = 0; source < 23; source++) {
             desk.interval(source, -source, -source);
         }
-        dueMean(desk, 0, -11, 1);
+        CHECK.mean(desk, 0, -11, 1);
     }
 
     private static void meanWithTheLesserMedianOfAnEvenNumber() {
         CHECK.sentence("Promise 11, of an even number the lesser one of both");
-        dueMean(Desks.points(20, 10), 0, 10, 1);
-        dueMean(Desks.points(10, 20), 0, 10, 1);
-        dueMean(Desks.points(40, 30, 20, 10), 0, 20, 1);
-        dueMean(Desks.points(40, 30, 20, 10), 10, 20, 3);
-        dueMean(Desks.points(40, 20, 20, 10), 0, 20, 2);
-        dueMean(Desks.points(-40, -30, -20, -10), 0, -30, 1);
+        CHECK.mean(Desks.points(20, 10), 0, 10, 1);
+        CHECK.mean(Desks.points(10, 20), 0, 10, 1);
+        CHECK.mean(Desks.points(40, 30, 20, 10), 0, 20, 1);
+        CHECK.mean(Desks.points(40, 30, 20, 10), 10, 20, 3);
+        CHECK.mean(Desks.points(40, 20, 20, 10), 0, 20, 2);
+        CHECK.mean(Desks.points(-40, -30, -20, -10), 0, -30, 1);
         ClockDesk desk = new ClockDesk();
         for (int source = 0; source < 24; source++) {
             desk.interval(source, -source, -source);
         }
-        dueMean(desk, 0, -12, 1);
+        CHECK.mean(desk, 0, -12, 1);
     }
 
     private static void meanOfTheFarthest() {
         CHECK.sentence("Promise 11, middles at - 2^58 and 2^58");
-        dueMean(Desks.alike(24, FAR, FAR), 0, FAR, 24);
-        dueMean(Desks.alike(24, -FAR, -FAR), 0, -FAR, 24);
+        CHECK.mean(Desks.alike(24, FAR, FAR), 0, FAR, 24);
+        CHECK.mean(Desks.alike(24, -FAR, -FAR), 0, -FAR, 24);
         ClockDesk desk = Desks.points(-FAR, FAR);
-        dueMean(desk, 2 * FAR - 1, -FAR, 1);
-        dueMean(desk, 2 * FAR, 0, 2);
-        dueMean(desk, 2 * FAR + 1, 0, 2);
-        dueMean(desk, Long.MAX_VALUE, 0, 2);
+        CHECK.mean(desk, 2 * FAR - 1, -FAR, 1);
+        CHECK.mean(desk, 2 * FAR, 0, 2);
+        CHECK.mean(desk, 2 * FAR + 1, 0, 2);
+        CHECK.mean(desk, Long.MAX_VALUE, 0, 2);
     }
 
     private static void meanWithoutIntervals() {
         CHECK.sentence("Promise 11, NO_OFFSET without intervals");
         ClockDesk desk = new ClockDesk();
-        dueMean(desk, 0, NO, NO);
-        dueMean(desk, Long.MAX_VALUE, NO, NO);
+        CHECK.mean(desk, 0, NO, NO);
+        CHECK.mean(desk, Long.MAX_VALUE, NO, NO);
         desk.interval(8, 5, 5);
-        dueMean(desk, 0, 5, 1);
+        CHECK.mean(desk, 0, 5, 1);
         desk.drop(8);
-        dueMean(desk, 0, NO, NO);
+        CHECK.mean(desk, 0, NO, NO);
     }
 
     private static void meanWithALimitBelow0() {
         CHECK.sentence("Promise 11, NO_OFFSET when limit is below 0");
         ClockDesk desk = Desks.points(1, 2, 3);
-        dueMean(desk, -1, NO, NO);
-        dueMean(desk, Long.MIN_VALUE, NO, NO);
-        dueMean(desk, 0, 2, 1);
+        CHECK.mean(desk, -1, NO, NO);
+        CHECK.mean(desk, Long.MIN_VALUE, NO, NO);
+        CHECK.mean(desk, 0, 2, 1);
     }
 
     private static void meanForOthers() {
@@ -126,18 +121,12 @@ public final class MiddlesEdgesTest {
         for (int part : Desks.OTHERS) {
             CHECK.due("mean(1, " + part + ")", desk.mean(1, part), NO);
         }
-        dueMean(desk, 1, 2, 3);
-    }
-
-    private static void dueSurvivors(ClockDesk desk, int... wanted) {
-        for (int k = 1; k <= wanted.length; k++) {
-            CHECK.due("survivors(" + k + ")", desk.survivors(k), wanted[k - 1]);
-        }
+        CHECK.mean(desk, 1, 2, 3);
     }
 
     private static void survivorsMoreThanK() {
         CHECK.sentence("Promise 12, as long as there are more than k sources left");
-        dueSurvivors(Desks.points(0, 1, 50), 0b001, 0b011, 0b111, 0b111);
+        CHECK.survivors(Desks.points(0, 1, 50), 0b001, 0b011, 0b111, 0b111);
         CHECK.due("survivors(24) of 3", Desks.points(0, 1, 50).survivors(24), 0b111);
         CHECK.due("survivors(1) of 1", Desks.points(9).survivors(1), 1);
         ClockDesk full = Desks.alike(24, 0, 0);
@@ -167,30 +156,30 @@ public final class MiddlesEdgesTest {
 
     private static void survivorsByAMeanRoundedDown() {
         CHECK.sentence("Promise 12, the mean, rounded down");
-        dueSurvivors(Desks.points(0, 1), 0b01, 0b11);
-        dueSurvivors(Desks.points(1, 0), 0b10, 0b11);
-        dueSurvivors(Desks.points(-1, 0), 0b01, 0b11);
-        dueSurvivors(Desks.points(0, -1), 0b10, 0b11);
-        dueSurvivors(Desks.points(-2, 0), 0b01, 0b11);
-        dueSurvivors(Desks.points(0, -2), 0b01, 0b11);
+        CHECK.survivors(Desks.points(0, 1), 0b01, 0b11);
+        CHECK.survivors(Desks.points(1, 0), 0b10, 0b11);
+        CHECK.survivors(Desks.points(-1, 0), 0b01, 0b11);
+        CHECK.survivors(Desks.points(0, -1), 0b10, 0b11);
+        CHECK.survivors(Desks.points(-2, 0), 0b01, 0b11);
+        CHECK.survivors(Desks.points(0, -2), 0b01, 0b11);
     }
 
     private static void survivorsByAMeanOfThoseLeft() {
         CHECK.sentence("Promise 12, the mean of the middles of all that are left");
         // By the first mean, 40, the sources would go in the order 3, 0, 1, 2.
-        dueSurvivors(Desks.points(0, 9, 12, 139), 0b0010, 0b0110, 0b0111, 0b1111);
+        CHECK.survivors(Desks.points(0, 9, 12, 139), 0b0010, 0b0110, 0b0111, 0b1111);
     }
 
     private static void survivorsOfSeveralTheGreatestNumberGoes() {
         CHECK.sentence("Promise 12, of several the one with the greatest number");
-        dueSurvivors(Desks.points(5, 5), 0b01, 0b11);
-        dueSurvivors(Desks.points(0, 10), 0b01, 0b11);
-        dueSurvivors(Desks.points(10, 0), 0b01, 0b11);
-        dueSurvivors(Desks.points(10, 5, 0), 0b010, 0b011, 0b111);
+        CHECK.survivors(Desks.points(5, 5), 0b01, 0b11);
+        CHECK.survivors(Desks.points(0, 10), 0b01, 0b11);
+        CHECK.survivors(Desks.points(10, 0), 0b01, 0b11);
+        CHECK.survivors(Desks.points(10, 5, 0), 0b010, 0b011, 0b111);
         ClockDesk desk = new ClockDesk();
         desk.interval(0, 3, 3);
         desk.interval(23, 3, 3);
-        dueSurvivors(desk, 1, 1 | 1 << 23);
+        CHECK.survivors(desk, 1, 1 | 1 << 23);
         desk = Desks.alike(24, 8, 8);
         for (int k = 1; k <= 24; k++) {
             CHECK.due("survivors(" + k + ") of the same", desk.survivors(k), (1 << k) - 1);
@@ -230,17 +219,11 @@ public final class MiddlesEdgesTest {
         CHECK.same("the state", Desks.state(desk), before);
     }
 
-    private static void dueRanks(ClockDesk desk, int k, int... wanted) {
-        for (int source = 0; source < wanted.length; source++) {
-            CHECK.due("rank(" + source + ", " + k + ")", desk.rank(source, k), wanted[source]);
-        }
-    }
-
     private static void rankFrom0On() {
         CHECK.sentence("Promise 13, its rank by its middle, from 0 on");
-        dueRanks(Desks.points(9), 1, 0);
-        dueRanks(Desks.points(30, 10, 20), 3, 2, 0, 1);
-        dueRanks(Desks.points(FAR, -FAR, 0), 24, 2, 0, 1);
+        CHECK.ranks(Desks.points(9), 1, 0);
+        CHECK.ranks(Desks.points(30, 10, 20), 3, 2, 0, 1);
+        CHECK.ranks(Desks.points(FAR, -FAR, 0), 24, 2, 0, 1);
         ClockDesk desk = new ClockDesk();
         for (int source = 0; source < 24; source++) {
             desk.interval(source, -source, -source);
@@ -251,12 +234,12 @@ public final class MiddlesEdgesTest {
 
     private static void rankOfTheSame() {
         CHECK.sentence("Promise 13, of the same the lesser number first");
-        dueRanks(Desks.points(4, 4), 2, 0, 1);
-        dueRanks(Desks.points(4, 5), 2, 0, 1);
-        dueRanks(Desks.points(5, 4), 2, 1, 0);
-        dueRanks(Desks.points(4, 4, 1, 4), 24, 1, 2, 0, 3);
-        dueRanks(Desks.of(3, 6, 4, 4), 2, 0, 1);
-        dueRanks(Desks.of(4, 6, 4, 4), 2, 1, 0);
+        CHECK.ranks(Desks.points(4, 4), 2, 0, 1);
+        CHECK.ranks(Desks.points(4, 5), 2, 0, 1);
+        CHECK.ranks(Desks.points(5, 4), 2, 1, 0);
+        CHECK.ranks(Desks.points(4, 4, 1, 4), 24, 1, 2, 0, 3);
+        CHECK.ranks(Desks.of(3, 6, 4, 4), 2, 0, 1);
+        CHECK.ranks(Desks.of(4, 6, 4, 4), 2, 1, 0);
         ClockDesk full = Desks.alike(24, 8, 8);
         for (int source = 0; source < 24; source++) {
             CHECK.due("rank(" + source + ", 24) of the same", full.rank(source, 24), source);
@@ -266,12 +249,12 @@ public final class MiddlesEdgesTest {
     private static void rankOfOneThatHasGone() {
         CHECK.sentence("Promise 13, NONE when it is none of them, for it has gone");
         ClockDesk desk = Desks.points(50, 0, 1);
-        dueRanks(desk, 3, 2, 0, 1);
-        dueRanks(desk, 2, NONE, 0, 1);
-        dueRanks(desk, 1, NONE, 0, NONE);
+        CHECK.ranks(desk, 3, 2, 0, 1);
+        CHECK.ranks(desk, 2, NONE, 0, 1);
+        CHECK.ranks(desk, 1, NONE, 0, NONE);
         ClockDesk below = Desks.points(-50, 0, 1);
-        dueRanks(below, 3, 0, 1, 2);
-        dueRanks(below, 2, NONE, 0, 1);
+        CHECK.ranks(below, 3, 0, 1, 2);
+        CHECK.ranks(below, 2, NONE, 0, 1);
     }
 
     private static void rankOfOneWithoutAnInterval() {
@@ -303,7 +286,7 @@ public final class MiddlesEdgesTest {
                 CHECK.due("rank(" + source + ", " + k + ")", desk.rank(source, k), NONE);
             }
         }
-        dueRanks(desk, 1, 0, NONE, NONE);
-        dueRanks(desk, 24, 0, 1, 2);
+        CHECK.ranks(desk, 1, 0, NONE, NONE);
+        CHECK.ranks(desk, 24, 0, 1, 2);
     }
 }

@@ -34,11 +34,6 @@ public final class RegionEdgesTest {
         CHECK.due("region(1)", desk.region(1), high);
     }
 
-    private static void dueHull(ClockDesk desk, int f, long low, long high) {
-        CHECK.due("hull(" + f + ", 0)", desk.hull(f, 0), low);
-        CHECK.due("hull(" + f + ", 1)", desk.hull(f, 1), high);
-    }
-
     private static void greatestWithoutIntervals() {
         CHECK.sentence("Promise 7, 0 without intervals");
         CHECK.due("of a new one", new ClockDesk().greatest(), 0);
@@ -107,43 +102,43 @@ public final class RegionEdgesTest {
 
     private static void hullOfAllSources() {
         CHECK.sentence("Promise 9, f = 0");
-        dueHull(Desks.of(4, 6), 0, 4, 6);
-        dueHull(Desks.of(0, 5, 5, 9), 0, 5, 5);
-        dueHull(Desks.of(0, 6, 5, 9), 0, 5, 6);
-        dueHull(Desks.alike(24, -FAR, FAR), 0, -FAR, FAR);
+        CHECK.hull(Desks.of(4, 6), 0, 4, 6);
+        CHECK.hull(Desks.of(0, 5, 5, 9), 0, 5, 5);
+        CHECK.hull(Desks.of(0, 6, 5, 9), 0, 5, 6);
+        CHECK.hull(Desks.alike(24, -FAR, FAR), 0, -FAR, FAR);
     }
 
     private static void hullOfAnySource() {
         CHECK.sentence("Promise 9, f = sources() - 1");
-        dueHull(Desks.of(0, 5, 6, 9), 1, 0, 9);
-        dueHull(Desks.of(90, 95, 0, 1, 40, 41), 2, 0, 95);
-        dueHull(Desks.of(FAR, FAR, -FAR, -FAR), 1, -FAR, FAR);
+        CHECK.hull(Desks.of(0, 5, 6, 9), 1, 0, 9);
+        CHECK.hull(Desks.of(90, 95, 0, 1, 40, 41), 2, 0, 95);
+        CHECK.hull(Desks.of(FAR, FAR, -FAR, -FAR), 1, -FAR, FAR);
         ClockDesk full = Desks.alike(24, 1, 2);
         full.interval(23, 8, 9);
-        dueHull(full, 23, 1, 9);
-        dueHull(full, 22, 1, 2);
+        CHECK.hull(full, 23, 1, 9);
+        CHECK.hull(full, 22, 1, 2);
     }
 
     private static void hullOverPointsBetween() {
         CHECK.sentence("Promise 9, of all points that are covered by at least so many");
         ClockDesk desk = Desks.of(0, 4, 2, 6, 90, 94, 92, 96);
-        dueHull(desk, 1, NO, NO);
-        dueHull(desk, 2, 2, 94);
-        dueHull(desk, 3, 0, 96);
+        CHECK.hull(desk, 1, NO, NO);
+        CHECK.hull(desk, 2, 2, 94);
+        CHECK.hull(desk, 3, 0, 96);
         desk.interval(4, 3, 3);
-        dueHull(desk, 1, NO, NO);
-        dueHull(desk, 2, 3, 3);
-        dueHull(desk, 3, 2, 94);
+        CHECK.hull(desk, 1, NO, NO);
+        CHECK.hull(desk, 2, 3, 3);
+        CHECK.hull(desk, 3, 2, 94);
     }
 
     private static void hullWhenThereIsNone() {
         CHECK.sentence("Promise 9, NO_OFFSET when there is none");
-        dueHull(Desks.of(0, 5, 6, 9), 0, NO, NO);
-        dueHull(Desks.of(0, 5, 5, 9), 0, 5, 5);
+        CHECK.hull(Desks.of(0, 5, 6, 9), 0, NO, NO);
+        CHECK.hull(Desks.of(0, 5, 5, 9), 0, 5, 5);
         ClockDesk full = Desks.alike(24, 1, 2);
         full.interval(23, 3, 3);
-        dueHull(full, 0, NO, NO);
-        dueHull(full, 1, 1, 2);
+        CHECK.hull(full, 0, NO, NO);
+        CHECK.hull(full, 1, 1, 2);
     }
 
     private static void hullOfAnFBelow0() {
@@ -151,9 +146,9 @@ public final class RegionEdgesTest {
         ClockDesk desk = Desks.of(0, 10, 5, 15);
         int[] below = {-1, -2, -23, Integer.MIN_VALUE, Integer.MIN_VALUE + 1};
         for (int f : below) {
-            dueHull(desk, f, NO, NO);
+            CHECK.hull(desk, f, NO, NO);
         }
-        dueHull(desk, 0, 5, 10);
+        CHECK.hull(desk, 0, 5, 10);
     }
 
     private static void hullOfAnFTooLarge() {
@@ -161,23 +156,23 @@ public final class RegionEdgesTest {
         ClockDesk desk = Desks.of(0, 10, 5, 15);
         int[] above = {2, 3, 23, 24, Integer.MAX_VALUE};
         for (int f : above) {
-            dueHull(desk, f, NO, NO);
+            CHECK.hull(desk, f, NO, NO);
         }
-        dueHull(desk, 1, 0, 15);
+        CHECK.hull(desk, 1, 0, 15);
         desk.drop(0);
-        dueHull(desk, 1, NO, NO);
+        CHECK.hull(desk, 1, NO, NO);
         ClockDesk full = Desks.alike(24, 1, 2);
-        dueHull(full, 23, 1, 2);
-        dueHull(full, 24, NO, NO);
+        CHECK.hull(full, 23, 1, 2);
+        CHECK.hull(full, 24, NO, NO);
     }
 
     private static void hullWithoutIntervals() {
         CHECK.sentence("Promise 9, f is not 0 .. sources() - 1, there being none");
         int[] any = {-1, 0, 1, 23, 24};
         for (int f : any) {
-            dueHull(new ClockDesk(), f, NO, NO);
+            CHECK.hull(new ClockDesk(), f, NO, NO);
         }
-        dueHull(Desks.of(3, 4), 0, 3, 4);
+        CHECK.hull(Desks.of(3, 4), 0, 3, 4);
     }
 
     private static void hullForOthers() {
@@ -187,7 +182,7 @@ public final class RegionEdgesTest {
             CHECK.due("hull(0, " + end + ")", desk.hull(0, end), NO);
             CHECK.due("hull(1, " + end + ")", desk.hull(1, end), NO);
         }
-        dueHull(desk, 0, 5, 10);
+        CHECK.hull(desk, 0, 5, 10);
     }
 
     private static void dueChosen(ClockDesk desk, boolean... wanted) {

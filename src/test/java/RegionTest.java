@@ -23,11 +23,6 @@ public final class RegionTest {
         CHECK.due(what + ": region(1)", desk.region(1), high);
     }
 
-    private static void dueHull(ClockDesk desk, int f, long low, long high) {
-        CHECK.due("hull(" + f + ", 0)", desk.hull(f, 0), low);
-        CHECK.due("hull(" + f + ", 1)", desk.hull(f, 1), high);
-    }
-
     private static void oneInCommon() {
         dueRegion("alone", Desks.of(-7, 9), 1, -7, 9);
         dueRegion("within", Desks.of(0, 10, 3, 5), 2, 3, 5);
@@ -75,19 +70,19 @@ public final class RegionTest {
 
     private static void hullsOfAllKinds() {
         ClockDesk desk = Desks.of(0, 10, 5, 15, 11, 20, 100, 200);
-        dueHull(desk, 0, NO, NO);
-        dueHull(desk, 1, NO, NO);
-        dueHull(desk, 2, 5, 15);
-        dueHull(desk, 3, 0, 200);
+        CHECK.hull(desk, 0, NO, NO);
+        CHECK.hull(desk, 1, NO, NO);
+        CHECK.hull(desk, 2, 5, 15);
+        CHECK.hull(desk, 3, 0, 200);
         ClockDesk apart = Desks.of(0, 4, 2, 6, 90, 94, 92, 96);
-        dueHull(apart, 2, 2, 94);
-        dueHull(apart, 3, 0, 96);
+        CHECK.hull(apart, 2, 2, 94);
+        CHECK.hull(apart, 3, 0, 96);
         ClockDesk common = Desks.of(-20, 20, -10, 30, -15, 5);
-        dueHull(common, 0, -10, 5);
-        dueHull(common, 1, -15, 20);
-        dueHull(common, 2, -20, 30);
-        dueHull(Desks.of(-FAR, FAR), 0, -FAR, FAR);
-        dueHull(Desks.of(FAR, FAR, -FAR, -FAR), 1, -FAR, FAR);
+        CHECK.hull(common, 0, -10, 5);
+        CHECK.hull(common, 1, -15, 20);
+        CHECK.hull(common, 2, -20, 30);
+        CHECK.hull(Desks.of(-FAR, FAR), 0, -FAR, FAR);
+        CHECK.hull(Desks.of(FAR, FAR, -FAR, -FAR), 1, -FAR, FAR);
     }
 
     private static void choosing() {
